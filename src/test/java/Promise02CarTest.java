@@ -22,6 +22,7 @@ public final class Promise02CarTest {
         check.that("greatest number", fleet.car(Long.MAX_VALUE, 5), 3);
         check.that("number 2^32 + 1", fleet.car((1L << 32) + 1, 5), 4);
         check.that("same number", fleet.car(Long.MAX_VALUE, 6), -3);
+        check.that("number of the first car", fleet.car(1, 6), -3);
         check.that("range before state", fleet.car(1, 1001), -2);
         check.that("after refusals", fleet.car(3, 5), 5);
     }

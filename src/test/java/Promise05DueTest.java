@@ -7,6 +7,7 @@ public final class Promise05DueTest {
         retries(check);
         earlierEditionsFirst(check);
         toldOrderFirst(check);
+        heldBackByTheFirst(check);
         onlyWithoutBetween(check);
         stoppedOnesAreWaived(check);
         leastTimeThenNumber(check);
@@ -96,6 +97,21 @@ public final class Promise05DueTest {
         check.that("one given up holds back", fleet.due(1, 300), 0);
         fleet.stop(2);
         check.that("a stopped one does not", fleet.due(1, 300), 1);
+    }
+
+    private static void heldBackByTheFirst(Check check) {
+        FleetWaves fleet = Check.fleet(1);
+        fleet.campaign(0, 1);
+        fleet.campaign(1, 1);
+        fleet.campaign(0, 2);
+        fleet.order(2, 1);
+        fleet.wave(2, 1, 1, 0);
+        fleet.wave(3, 1, 1, 0);
+        check.that("the first is new", fleet.due(1, 0), 0);
+        fleet.wave(1, 1, 1, 9);
+        check.reported(fleet, 1, 9, 1, true);
+        check.reported(fleet, 1, 9, 2, true);
+        check.reported(fleet, 1, 9, 3, true);
     }
 
     private static void onlyWithoutBetween(Check check) {
