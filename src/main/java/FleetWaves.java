@@ -449,7 +449,7 @@ public final class FleetWaves {
         final int number;
         final int part;
         final int modulus;
-        final int remainder;
+        final int k;
         final int edition;
         final ArrayList<Wave> waves = new ArrayList<>();
         int state = NEW;
@@ -465,7 +465,7 @@ public final class FleetWaves {
             this.number = number;
             this.part = partOf(formula);
             this.modulus = 1 + Math.floorMod(formula / PARTS, MODULI);
-            this.remainder = formula / (PARTS * MODULI) % modulus;
+            this.k = formula / (PARTS * MODULI);
             this.edition = edition;
         }
 
@@ -479,7 +479,7 @@ public final class FleetWaves {
 
         boolean isMeantFor(Car car) {
             return modulus > 0
-                    && car.number % modulus == remainder
+                    && car.number % modulus == k % modulus
                     && car.isOlder(part, edition);
         }
 

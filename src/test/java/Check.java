@@ -1,22 +1,42 @@
+import java.util.ArrayList;
+import java.util.HashMap;
+import java.util.List;
+import java.util.Map;
+
 /** Counts and prints the answers that are not as due; helps to set up a fleet. */
 final class Check {
+    /** Stands for an ArithmeticException where an answer is compared. */
+    static final long THROWS = Model.THROWS;
+    static final long GREATEST_DOWN = 1L << 30;
+
+    private final Map<String, List<String>> named = new HashMap<>();
+    private String heading = "";
     private int wrong;
+
+    /** What is checked from now on is a promise's sentence, in the document's own words. */
+    void sentence(String promise, String words) {
+        heading = promise + ", \"" + words + "\": ";
+        named.computeIfAbsent(promise, p -> new ArrayList<>()).add(words);
+        if (!Doc.says(promise, words)) {
+            wrong++;
+            System.out.println(heading + "the document has no such words for it");
+        }
+    }
+
+    /** The words that were named for a promise so far. */
+    List<String> named(String promise) {
+        return named.getOrDefault(promise, List.of());
+    }
 
     void that(String call, long got, long due) {
         if (got != due) {
             wrong++;
-            System.out.println(call + " answered " + got + ", due is " + due);
+            System.out.println(heading + call + " answered " + text(got) + ", due is " + text(due));
         }
     }
 
     void shareThrows(String call, FleetWaves fleet, int campaign, int side) {
-        try {
-            long got = fleet.share(campaign, side);
-            wrong++;
-            System.out.println(call + " answered " + got + ", due is an ArithmeticException");
-        } catch (ArithmeticException due) {
-            return;
-        }
+        that(call, share(fleet, campaign, side), THROWS);
     }
 
     void end() {
@@ -25,6 +45,18 @@ final class Check {
             System.exit(1);
         }
         System.out.println("all answers are as due");
+    }
+
+    private static String text(long answer) {
+        return answer == THROWS ? "an ArithmeticException" : Long.toString(answer);
+    }
+
+    static long share(FleetWaves fleet, int campaign, int side) {
+        try {
+            return fleet.share(campaign, side);
+        } catch (ArithmeticException due) {
+            return THROWS;
+        }
     }
 
     static int formula(int part, int modulus, int k) {
@@ -37,6 +69,14 @@ final class Check {
         for (int number = 1; number <= count; number++) {
             fleet.car(number, 0);
         }
+        return fleet;
+    }
+
+    /** Such a fleet with one campaign, meant for all of it, and a wave for all from the time 0 on. */
+    static FleetWaves running(int count) {
+        FleetWaves fleet = fleet(count);
+        fleet.campaign(0, 1);
+        fleet.wave(1, 1, 1, 0);
         return fleet;
     }
 

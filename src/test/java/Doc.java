@@ -1,0 +1,67 @@
+import java.io.IOException;
+import java.io.UncheckedIOException;
+import java.nio.file.Files;
+import java.nio.file.Path;
+import java.util.ArrayList;
+import java.util.Arrays;
+import java.util.List;
+import java.util.Map;
+import java.util.TreeMap;
+
+/** The document ../shared/DOC.md by its sections, white space made even, for tests that quote it. */
+final class Doc {
+    private static final Path FILE = Path.of("..", "shared", "DOC.md");
+    private static final Map<String, String> SECTIONS = read();
+
+    private Doc() {
+    }
+
+    /** Whether a promise's own section, or a section that holds for all promises, has these words. */
+    static boolean says(String promise, String words) {
+        return section(promise).contains(words)
+                || section("Terms").contains(words)
+                || section("What it is").contains(words);
+    }
+
+    /** A section's text by its heading, up to a colon: "Promise 2" for "Promise 2: car". */
+    static String section(String name) {
+        return SECTIONS.getOrDefault(name, "");
+    }
+
+    /** The words of a section that stand in none of the quotes; what the face says is left out. */
+    static List<String> wordsOutside(String name, List<String> quotes) {
+        String text = section(name).replaceAll("^`[^`]*`:", "");
+        boolean[] quoted = new boolean[text.length()];
+        for (String quote : quotes) {
+            int at = text.indexOf(quote);
+            if (at >= 0) {
+                Arrays.fill(quoted, at, at + quote.length(), true);
+            }
+        }
+        StringBuilder rest = new StringBuilder();
+        for (int i = 0; i < quoted.length; i++) {
+            rest.append(quoted[i] ? ' ' : text.charAt(i));
+        }
+        List<String> words = new ArrayList<>();
+        for (String word : rest.toString().trim().split("\\s+")) {
+            if (word.chars().anyMatch(Character::isLetterOrDigit)) {
+                words.add(word);
+            }
+        }
+        return words;
+    }
+
+    private static Map<String, String> read() {
+        Map<String, String> sections = new TreeMap<>();
+        try {
+            for (String section : Files.readString(FILE).split("(?m)^## ")) {
+                String[] parts = section.split("\n", 2);
+                String text = parts.length < 2 ? "" : parts[1].replaceAll("(?m)^```.*$", " ");
+                sections.put(parts[0].split(":")[0].trim(), text.replaceAll("\\s+", " ").trim());
+            }
+        } catch (IOException e) {
+            throw new UncheckedIOException(e);
+        }
+        return sections;
+    }
+}
