@@ -76,13 +76,11 @@ public final class Promise12EdgesTest {
         check.sentence(PROMISE, "At how many campaigns a car FAILED twice");
         FleetWaves fleet = Check.fleet(1);
         for (int n = 1; n <= 40; n++) {
-            // None of these is before another one: the editions of a part go downward, each is
-            // stopped before the next one comes.
+            // The editions go downward, so that nothing comes before the newest one.
             fleet.campaign(0, 41 - n);
             fleet.wave(n, 1, 1, 100 * n);
             check.reported(fleet, 1, 100 * n, n, false);
             check.reported(fleet, 1, 100 * n + 100, n, false);
-            fleet.stop(n);
         }
         check.that("at all of 40", fleet.failed(1), 40);
     }

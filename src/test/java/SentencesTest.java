@@ -6,6 +6,10 @@ public final class SentencesTest {
     private static final int PROMISES = 14;
 
     public static void main(String[] args) {
+        if (!Doc.isThere()) {
+            System.out.println("there is no document to compare the tests with");
+            return;
+        }
         Check edges = new Check();
         runAll(edges);
         Check check = new Check();
