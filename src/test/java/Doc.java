@@ -7,6 +7,8 @@ import java.util.Arrays;
 import java.util.List;
 import java.util.Map;
 import java.util.TreeMap;
+import java.util.regex.Matcher;
+import java.util.regex.Pattern;
 
 /**
  * The document ../shared/DOC.md by its sections, white space made even, for tests that quote it.
@@ -31,9 +33,23 @@ final class Doc {
                 || section("What it is").contains(words);
     }
 
+    static int sections() {
+        return SECTIONS.size();
+    }
+
     /** A section's text by its heading, up to a colon: "Promise 2" for "Promise 2: car". */
     static String section(String name) {
         return SECTIONS.getOrDefault(name, "");
+    }
+
+    /** The methods of the public face, each as its line has it, without "public". */
+    static List<String> face() {
+        List<String> methods = new ArrayList<>();
+        Matcher line = Pattern.compile("public (\\w+ \\w+\\([^;]*);").matcher(section("The public face"));
+        while (line.find()) {
+            methods.add(line.group(1));
+        }
+        return methods;
     }
 
     /** The words of a section that stand in none of the quotes; what the face says is left out. */

@@ -4,6 +4,7 @@ import java.lang.reflect.Method;
 import java.lang.reflect.Modifier;
 import java.util.Set;
 import java.util.TreeSet;
+import java.util.stream.Collectors;
 
 /** The public face is the document's, and nothing of the class but its face is to be seen. */
 public final class FaceTest {
@@ -26,6 +27,10 @@ public final class FaceTest {
             }
         }
         check.that("public methods " + found, found.equals(Set.of(FACE)) ? 1 : 0, 1);
+        if (Doc.isThere()) {
+            Set<String> told = Doc.face().stream().map(FaceTest::withoutNames).collect(Collectors.toSet());
+            check.that("the document's methods " + told, told.equals(found) ? 1 : 0, 1);
+        }
         for (Method method : FleetWaves.class.getDeclaredMethods()) {
             boolean isPublic = Modifier.isPublic(method.getModifiers());
             boolean isPrivate = Modifier.isPrivate(method.getModifiers());
@@ -48,6 +53,11 @@ public final class FaceTest {
         check.that("share names its exception",
                 thrown.length == 1 && thrown[0] == ArithmeticException.class ? 1 : 0, 1);
         check.end();
+    }
+
+    /** "int state(int campaign)" becomes "int state(int)". */
+    private static String withoutNames(String line) {
+        return line.replaceAll(" \\w+(?=[,)])", "").replaceAll(", ", ",").replaceAll("\\).*", ")");
     }
 
     private static String signature(Method method) {

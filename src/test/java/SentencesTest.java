@@ -1,9 +1,11 @@
 import java.util.ArrayList;
 import java.util.List;
 
-/** Every word of the promises and of their Terms stands in a sentence that an edges test names. */
+/** Every word of the document but its public face stands in a sentence that a test names. */
 public final class SentencesTest {
     private static final int PROMISES = 14;
+    /** What it is, The public face (see FaceTest), Terms, Not promised, and the title above them. */
+    private static final int OTHER_SECTIONS = 5;
 
     public static void main(String[] args) {
         if (!Doc.isThere()) {
@@ -20,6 +22,9 @@ public final class SentencesTest {
             all.addAll(named);
         }
         noWordIsLeft(check, "Terms", all);
+        noWordIsLeft(check, "What it is", edges.named("What it is"));
+        noWordIsLeft(check, "Not promised", edges.named("Not promised"));
+        check.that("the sections", Doc.sections(), PROMISES + OTHER_SECTIONS);
         edges.end();
         check.end();
     }
@@ -39,6 +44,7 @@ public final class SentencesTest {
         Promise12EdgesTest.run(check);
         Promise13EdgesTest.run(check);
         Promise14EdgesTest.run(check);
+        WholeDocumentTest.run(check);
     }
 
     private static void noWordIsLeft(Check check, String section, List<String> named) {
